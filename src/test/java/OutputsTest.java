@@ -136,6 +136,10 @@ final class OutputsTest {
                 Check.same(Math.min(one[unit + 1], one[0]), x.delivered(unit, 0, 0));
             }
         }
+        // The cost of each hour is none of the costs that the deliveries go by.
+        x.setDemand(0, 0, 20);
+        x.setUnit(1, 0, 10000);
+        Check.same(10, x.delivered(1, 0, 0));
         x.setDemand(0, 0, 8);
         Check.same(2, x.output(0, 0, 3));
         Check.same(5, x.output(1, 0, 3));
@@ -183,6 +187,16 @@ final class OutputsTest {
         row(b -> x.delivered(1, b, 0), 20, 0, 50, 5);
         row(b -> x.delivered(0, b, 0), 0, 0, 0, 2);
         row(b -> x.delivered(2, b, 0), 30, 10, 0, 0);
+        // The last one that is left goes on, too.
+        x.commit(2, 0, 0, false);
+        x.setDemand(3, 0, 99);
+        x.setDemand(1, 0, 0);
+        x.setDemand(0, 0, 1);
+        row(b -> x.delivered(1, b, 0), 1, 0, 50, 5);
+        x.setDemand(3, 0, 7);
+        x.setDemand(1, 0, 16);
+        x.setDemand(0, 0, 50);
+        x.commit(2, 0, 0, true);
         // Without room nothing goes anywhere but at home.
         x.setLine(2, 0, 0);
         row(b -> x.delivered(1, b, 0), 0, 0, 50, 5);
@@ -286,6 +300,13 @@ final class OutputsTest {
         row(x::violationCount, 9, 2, 1, 1, 2, 2, 1);
         x.setUnit(0, 4, 1);
         row(x::violationCount, 8, 1, 1, 1, 2, 2, 1);
+        x.setDemand(0, 0, 39);
+        row(x::violationCount, 8, 1, 1, 1, 2, 2, 1);
+        x.setDemand(0, 0, 40);
+        row(x::violationCount, 7, 1, 1, 1, 2, 2, 0);
+        x.setReserve(0, 60);
+        x.setDemand(0, 1, 0);
+        row(x::violationCount, 5, 1, 1, 1, 1, 1, 0);
         for (int wrong : new int[] {-1, 7, MIN, MAX}) {
             Sample.refuses(IllegalArgumentException.class, y -> y.violationCount(wrong));
         }
@@ -350,6 +371,10 @@ final class OutputsTest {
         Check.same(true, new UnitCommitment().isConsistent());
         Check.same(true, oneUnit().isConsistent());
         Check.same(true, broken().isConsistent());
+        UnitCommitment costly = oneUnit();
+        costly.setUnit(0, 0, 7);
+        costly.setUnit(0, 2, 250);
+        Check.same(true, costly.isConsistent());
         UnitCommitment x = tree();
         x.commit(1, 0, 0, true);
         x.commit(2, 0, 0, true);

@@ -229,9 +229,19 @@ final class PlanTest {
         y.setUnit(1, 4, 4);
         y.setDemand(0, 0, 50);
         y.setDemand(0, 1, 51);
+        y.setUnit(0, 0, 1);
         Check.same(3, y.planByMerit());
         Check.same(0b10, y.unit(0, 13));
         Check.same(0b11, y.unit(1, 13));
+        // Both must stay, and a new plan takes the place of the old one.
+        y.setUnit(0, 6, 1);
+        y.setUnit(0, 4, 2);
+        Check.same(1, y.planByMerit());
+        Check.same(0b11, y.unit(0, 13));
+        Check.same(0b11, y.unit(1, 13));
+        y.setDemand(0, 1, 50);
+        Check.same(1, y.planByMerit());
+        Check.same(0b01, y.unit(0, 13));
     }
 
     private static void meritOutages() {

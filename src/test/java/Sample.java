@@ -21,6 +21,7 @@ final class Sample {
         x.setDemand(0, 1, 90);
         x.setDemand(1, 1, 50);
         x.setDemand(0, 2, 5);
+        x.setReserve(0, 2);
         x.setReserve(1, 15);
         x.setUnit(0, 0, 50);
         x.setUnit(0, 2, 300);

@@ -34,7 +34,9 @@ final class SetupTest {
 
     private static void sizeAnew() {
         UnitCommitment x = Sample.make();
+        Check.same(true, x.total(0) > 0);
         Check.same(2, x.size(2, 3));
+        Check.same(0, x.total(0));
         Check.fails(IndexOutOfBoundsException.class, () -> x.unit(0, 0));
         Check.fails(IndexOutOfBoundsException.class, () -> x.outage(0, 0));
         Check.fails(IndexOutOfBoundsException.class, () -> x.hour(2, 0));

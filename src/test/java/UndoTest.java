@@ -37,6 +37,7 @@ final class UndoTest {
             Check.same("change " + i, false, before.equals(Sample.told(changed)));
             UnitCommitment undone = Sample.make();
             CHANGES[i].on(undone);
+            undone.total(0);
             Check.same(7, undone.undo());
             Check.same("change " + i, before, Sample.told(undone));
         }
@@ -134,6 +135,7 @@ final class UndoTest {
             change.on(x);
             x.size(24, 4);
             x.setPolicy(2);
+            x.total(0);
             Check.same(2, x.restore());
             Check.same(before, Sample.told(x));
             Check.fails(IllegalStateException.class, x::undo);

@@ -111,6 +111,10 @@ final class UnitsTest {
         Check.same(0, x.unit(0, 7));
         x.undo();
         Check.same(-4, x.unit(0, 6));
+        x.setUnit(0, 6, 1);
+        Check.same(20, x.setUnit(0, 7, 100));
+        x.undo();
+        x.undo();
         x.undo();
         Check.same(80, x.unit(0, 7));
     }
