@@ -268,26 +268,14 @@ final class ModelTest {
 
     /** After undo and restore the sizes are those of the model. */
     private void learn() {
-        units = count(u -> m.unit(u, 0));
-        outages = count(o -> m.outage(o, 0));
-        buses = count(b -> m.bus(b, 0, 0));
-        hours = count(h -> m.hour(h, 0));
+        units = Sample.count(u -> m.unit(u, 0));
+        outages = Sample.count(o -> m.outage(o, 0));
+        buses = Sample.count(b -> m.bus(b, 0, 0));
+        hours = Sample.count(h -> m.hour(h, 0));
     }
 
     private interface Question {
         int of(int index);
-    }
-
-    private static int count(Question question) {
-        int count = 0;
-        try {
-            for (; count < 100; count++) {
-                question.of(count);
-            }
-        } catch (IndexOutOfBoundsException e) {
-            return count;
-        }
-        return count;
     }
 
     private void step(int style) {

@@ -188,15 +188,12 @@ final class OutputsTest {
         row(b -> x.delivered(0, b, 0), 0, 0, 0, 2);
         row(b -> x.delivered(2, b, 0), 30, 10, 0, 0);
         // The last one that is left goes on, too.
-        x.commit(2, 0, 0, false);
-        x.setDemand(3, 0, 99);
-        x.setDemand(1, 0, 0);
-        x.setDemand(0, 0, 1);
-        row(b -> x.delivered(1, b, 0), 1, 0, 50, 5);
-        x.setDemand(3, 0, 7);
-        x.setDemand(1, 0, 16);
-        x.setDemand(0, 0, 50);
-        x.commit(2, 0, 0, true);
+        x.addUnit(2, 0, 51, 51, 3);
+        x.commit(1, 0, 0, false);
+        x.commit(3, 0, 0, true);
+        row(b -> x.delivered(3, b, 0), 1, 0, 50, 0);
+        x.commit(3, 0, 0, false);
+        x.commit(1, 0, 0, true);
         // Without room nothing goes anywhere but at home.
         x.setLine(2, 0, 0);
         row(b -> x.delivered(1, b, 0), 0, 0, 50, 5);

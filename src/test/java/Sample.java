@@ -4,7 +4,7 @@ final class Sample {
         void on(UnitCommitment x);
     }
 
-    private interface Question {
+    interface Question {
         Object of(int what);
     }
 
@@ -130,7 +130,8 @@ final class Sample {
         text.append('\n');
     }
 
-    private static int count(Question question) {
+    /** How many indexes from 0 on have an answer. */
+    static int count(Question question) {
         int count = 0;
         try {
             for (; count < 100; count++) {
