@@ -1,5 +1,12 @@
-/** A small planner in which a bit of everything is set, and all that it tells as one text. */
+import java.util.HashMap;
+import java.util.Map;
+
+/** Small planners in which a bit of everything is set, and all that they tell as one text. */
 final class Sample {
+    interface Maker {
+        UnitCommitment make();
+    }
+
     interface Call {
         void on(UnitCommitment x);
     }
@@ -8,10 +15,24 @@ final class Sample {
         Object of(int what);
     }
 
+    /** 3 hours, 2 buses, 2 units, 2 outages, 8 changes to undo, a snapshot, an error position and a text. */
+    static final Maker SAMPLE = Sample::make;
+
+    /** Nothing but what the constructor makes. */
+    static final Maker FRESH = UnitCommitment::new;
+
+    /** 6 units, 6 outages, 100 characters in the buffer, and 8 changes to undo. */
+    static final Maker FULL = Sample::makeFull;
+
+    /** The one of SAMPLE with 4 units, too many for a search. */
+    static final Maker WIDE = Sample::makeWide;
+
+    /** What planners tell to which nothing was done, each found once. */
+    private static final Map<Maker, String> UNTOUCHED = new HashMap<>();
+
     private Sample() {
     }
 
-    /** 3 hours, 2 buses, 2 units, 2 outages, 8 changes to undo, a snapshot, an error position and a text. */
     static UnitCommitment make() {
         UnitCommitment x = new UnitCommitment();
         x.size(3, 2);
@@ -40,6 +61,29 @@ final class Sample {
         return x;
     }
 
+    private static UnitCommitment makeFull() {
+        UnitCommitment x = new UnitCommitment();
+        x.size(1, 2);
+        x.snapshot();
+        for (int unit = 0; unit < 6; unit++) {
+            x.addUnit(unit % 2, unit, 10 + unit, 8, unit);
+            x.commit(unit, 0, 0, unit != 4);
+        }
+        x.setDemand(1, 0, 17);
+        for (int outage = 0; outage < 6; outage++) {
+            x.addOutage(outage / 3, 0, 1 + outage);
+        }
+        type(x, "0=1;".repeat(25));
+        return x;
+    }
+
+    private static UnitCommitment makeWide() {
+        UnitCommitment x = make();
+        x.addUnit(0, 0, 9, 9, 9);
+        x.addUnit(1, 3, 9, 4, 1);
+        return x;
+    }
+
     static void type(UnitCommitment x, String text) {
         for (int i = 0; i < text.length(); i++) {
             x.append(text.charAt(i));
@@ -48,22 +92,41 @@ final class Sample {
 
     /** The call throws the exception that is due, and what the planner tells afterwards is as without it. */
     static void refuses(Class<? extends RuntimeException> kind, Call call) {
-        UnitCommitment tried = make();
-        Check.fails(kind, () -> call.on(tried));
-        Check.same("state", all(make()), all(tried));
+        refuses(SAMPLE, kind, call);
     }
 
-    /** All that a planner tells; it is used up by that. */
-    static String all(UnitCommitment x) {
-        StringBuilder text = new StringBuilder(told(x));
-        row(text, "errorPosition", 1, w -> x.errorPosition());
-        row(text, "append", 1, w -> x.append('1'));
-        for (int i = 0; i < 9; i++) {
-            row(text, "undo", 1, w -> x.undo());
-            brief(text, x);
+    static void refuses(Maker maker, Class<? extends RuntimeException> kind, Call call) {
+        leaves(maker, x -> Check.fails(kind, () -> call.on(x)));
+    }
+
+    /** What the planner tells after the call is as without it, also what undo and restore bring back. */
+    static void leaves(Maker maker, Call call) {
+        String before = UNTOUCHED.computeIfAbsent(maker, m -> all(m, x -> { }));
+        Check.same("state", before, all(maker, call));
+    }
+
+    /** All that a planner tells after a call, after each number of undos, from its buffer, and after a restore. */
+    private static String all(Maker maker, Call call) {
+        StringBuilder text = new StringBuilder();
+        for (int undos = 0; undos <= 9; undos++) {
+            UnitCommitment x = maker.make();
+            call.on(x);
+            for (int i = 0; i < undos; i++) {
+                row(text, "undo", 1, w -> x.undo());
+            }
+            text.append(told(x));
         }
-        row(text, "restore", 1, w -> x.restore());
-        brief(text, x);
+        UnitCommitment typed = maker.make();
+        call.on(typed);
+        row(text, "errorPosition", 1, w -> typed.errorPosition());
+        row(text, "append", 2, w -> typed.append(w == 0 ? '1' : '0'));
+        row(text, "readPlan", 1, w -> typed.readPlan());
+        row(text, "errorPosition", 1, w -> typed.errorPosition());
+        text.append(told(typed));
+        UnitCommitment restored = maker.make();
+        call.on(restored);
+        row(text, "restore", 1, w -> restored.restore());
+        text.append(told(restored));
         return text.toString();
     }
 
@@ -108,13 +171,6 @@ final class Sample {
             row(text, "output " + unit, 7, w -> x.output(unit, hour, w));
             row(text, "delivered " + unit, buses, b -> x.delivered(unit, b, hour));
         }
-    }
-
-    private static void brief(StringBuilder text, UnitCommitment x) {
-        row(text, "plan 0", 1, w -> x.unit(0, 13));
-        row(text, "plan 1", 1, w -> x.unit(1, 13));
-        row(text, "totals", 2, x::total);
-        row(text, "outage 1", 1, w -> x.outage(1, 4));
     }
 
     private static void row(StringBuilder text, String name, int whats, Question question) {
