@@ -28,7 +28,7 @@ final class MeritEdgesTest {
     }
 
     private static void enough() {
-        Check.test("promise 14: a unit is planned while the sum is less than what is needed, not where it is equal", () -> {
+        Check.test("promise 14: units are planned until the sum is as much as what is needed", () -> {
             int[] demands = {0, 1, 49, 50, 51, 99, 100, 101, 150, 151, 500};
             int[] due = {0, 1, 1, 1, 3, 3, 3, 7, 7, 7, 7};
             for (int i = 0; i < demands.length; i++) {
@@ -238,6 +238,20 @@ final class MeritEdgesTest {
             Check.same(0b10, planned(dearOne(49)));
             Check.same(0b10, planned(dearOne(50)));
             Check.same(0b11, planned(dearOne(51)));
+        });
+        Check.test("promise 14: the outputs of all that must stay count", () -> {
+            int[] demands = {0, 110, 111, 150, 151};
+            int[] due = {0b0011, 0b0011, 0b0111, 0b0111, 0b1111};
+            for (int i = 0; i < demands.length; i++) {
+                UnitCommitment x = Edges.planner(1, 50, 60, 40, 30);
+                for (int unit = 0; unit < 2; unit++) {
+                    x.setUnit(unit, 6, 1);
+                    x.setUnit(unit, 4, 2);
+                    x.setUnit(unit, 0, 10000);
+                }
+                x.setDemand(0, 0, demands[i]);
+                Check.same("demand " + demands[i], due[i], planned(x));
+            }
         });
         Check.test("promise 14: those that must stay are planned, also where nothing is needed", () -> {
             UnitCommitment x = Edges.planner(2, 50, 60, 70);

@@ -50,7 +50,7 @@ final class OutputEdgesTest {
     }
 
     private static void lows() {
-        Check.test("promise 19: the low is the greater one of the least output and the output before minus the ramp", () -> {
+        Check.test("promise 19: the low is the least output, or the output before minus the ramp", () -> {
             int[][] due = {{20, 20}, {49, 20}, {50, 20}, {51, 21}, {52, 22}, {100, 70}};
             for (int[] one : due) {
                 UnitCommitment x = running(one[0], 0);
@@ -80,7 +80,7 @@ final class OutputEdgesTest {
     }
 
     private static void highs() {
-        Check.test("promise 19: the high is the lesser one of the greatest output and the output before plus the ramp", () -> {
+        Check.test("promise 19: the high is the greatest output, or the output before plus the ramp", () -> {
             int[][] due = {{20, 50}, {68, 98}, {69, 99}, {70, 100}, {71, 100}, {100, 100}};
             for (int[] one : due) {
                 UnitCommitment x = running(one[0], 500);
@@ -127,7 +127,7 @@ final class OutputEdgesTest {
     }
 
     private static void starts() {
-        Check.test("promise 19: a unit that starts has the least output as its low, and as its high the ramp in between", () -> {
+        Check.test("promise 19: at a start the low is the least output, the high the ramp in its bounds", () -> {
             int[][] due = {{1, 20}, {19, 20}, {20, 20}, {21, 21}, {99, 99}, {100, 100}, {101, 100}, {500, 100}};
             for (int[] one : due) {
                 UnitCommitment x = new UnitCommitment();
@@ -276,7 +276,7 @@ final class OutputEdgesTest {
                 Check.same(one[0], x.delivered(0, 0, 0));
             }
         });
-        Check.test("promise 19: what the lines do not carry of the low is spilled, not what they do not carry of the rest", () -> {
+        Check.test("promise 19: what the lines do not carry is spilled of the low, and not put out of more", () -> {
             for (int limit = 19; limit <= 21; limit++) {
                 UnitCommitment x = new UnitCommitment();
                 x.size(1, 2);
@@ -358,7 +358,19 @@ final class OutputEdgesTest {
                 }
             }
         });
-        Check.test("promise 20: a unit that does not run delivers nothing, and where nothing is needed none does", () -> {
+        Check.test("promise 20: the other costs of a unit change nothing in the turn", () -> {
+            UnitCommitment x = Edges.planner(1, 10);
+            x.addUnit(0, 0, 10, 10, 6);
+            x.setUnit(0, 0, 10000);
+            x.setUnit(0, 1, 10000);
+            x.setUnit(0, 2, 10000);
+            x.commit(0, 0, 0, true);
+            x.commit(1, 0, 0, true);
+            x.setDemand(0, 0, 11);
+            Check.same(10, x.delivered(0, 0, 0));
+            Check.same(1, x.delivered(1, 0, 0));
+        });
+        Check.test("promise 20: without running, or without a need, nothing is delivered", () -> {
             UnitCommitment x = Edges.planner(2, 9);
             x.setDemand(0, 0, 9);
             x.commit(0, 1, 1, true);

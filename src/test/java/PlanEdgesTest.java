@@ -307,7 +307,7 @@ final class PlanEdgesTest {
         Check.test("promise 13: by the policy 2 the one of the unit with the greatest greatest output is next", () -> {
             begins(crew(6, 2, new int[] {0, 0, 3}, new int[] {0, 1, 1}, new int[] {1, 2, 9}), 0, 12, 3);
         });
-        Check.test("promise 13: one that begins in the hour in which the crew is free can be next, not a later one", () -> {
+        Check.test("promise 13: one can be next that begins in the hour in which the crew is free", () -> {
             begins(crew(6, 1, new int[] {0, 0, 3}, new int[] {1, 1, 2}, new int[] {0, 3, 1}), 0, 4, 3);
             begins(crew(6, 1, new int[] {0, 0, 3}, new int[] {1, 1, 2}, new int[] {0, 4, 1}), 0, 3, 5);
         });

@@ -47,6 +47,21 @@ final class SearchEdgesTest {
             Check.same(4, x.undo());
             Check.same(5, x.search());
         });
+        Check.test("promise 15: nothing of an earlier search in more hours stays", () -> {
+            UnitCommitment x = planner(10, 1);
+            Edges.demands(x, 1, 1, 1, 1, 1, 1, 1, 1, 1, 1);
+            Check.same(50, x.search());
+            plans(x, 1023);
+            x.size(3, 1);
+            x.addUnit(0, 0, 50, 50, 5);
+            x.addUnit(0, 0, 50, 50, 5);
+            x.setDemand(0, 2, 50);
+            Check.same(250, x.search());
+            plans(x, 0b100, 0);
+            x.setDemand(0, 2, 0);
+            Check.same(0, x.search());
+            plans(x, 0, 0);
+        });
         Check.test("promise 15: without units there is just the empty plan, also of 24 hours", () -> {
             UnitCommitment x = new UnitCommitment();
             Check.same(0, x.search());
@@ -93,7 +108,7 @@ final class SearchEdgesTest {
             Check.same(25, x.search());
             plans(x, 0b0011);
         });
-        Check.test("promise 15: of three units alike the first one takes both hours, the second one what is left", () -> {
+        Check.test("promise 15: of three units alike the first takes both hours, the second what is left", () -> {
             // 1 + 2 + 8 is the lowest number with one unit in hour 0 and two in hour 1.
             UnitCommitment x = planner(2, 3);
             x.setDemand(0, 0, 50);
@@ -115,7 +130,8 @@ final class SearchEdgesTest {
 
     private static void kinds() {
         Check.test("promise 15: a unit with fewer hours up than the term 4 stays, with as many it need not", () -> {
-            int[][] due = {{1, 1, 0}, {1, 2, 1}, {2, 2, 0}, {3, 2, 0}, {1, 4, 3}, {1, 24, 10}, {24, 24, 0}, {23, 24, 1}};
+            int[][] due = {{1, 1, 0}, {1, 2, 1}, {2, 2, 0}, {3, 2, 0}, {1, 4, 3}, {1, 24, 10}, {24, 24, 0},
+                {23, 24, 1}};
             for (int[] one : due) {
                 UnitCommitment x = planner(10, 1);
                 x.setUnit(0, 0, 10000);

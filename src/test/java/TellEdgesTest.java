@@ -138,6 +138,17 @@ final class TellEdgesTest {
             x.commit(1, 0, 0, true);
             Check.same(49, x.hour(0, 2));
         });
+        Check.test("promise 22: the reserve of several units is that of all, whatever each of them has left", () -> {
+            UnitCommitment x = Edges.planner(1, 50, 40, 30);
+            x.commit(0, 0, 0, true);
+            x.commit(1, 0, 0, true);
+            x.commit(2, 0, 0, true);
+            int[][] due = {{0, 120}, {1, 119}, {49, 71}, {50, 70}, {51, 69}, {119, 1}, {120, 0}, {121, 0}};
+            for (int[] one : due) {
+                x.setDemand(0, 0, one[0]);
+                Check.same("reserve with " + one[0], one[1], x.hour(0, 2));
+            }
+        });
     }
 
     private static void penalty() {
@@ -150,7 +161,7 @@ final class TellEdgesTest {
                 Check.same("penalty with " + one[0], one[1], x.hour(0, 1));
             }
         });
-        Check.test("promise 22: a unit of power that is missing to the reserve demand costs 200, none costs nothing", () -> {
+        Check.test("promise 22: a unit of power that the reserve lacks costs 200, none costs nothing", () -> {
             UnitCommitment x = Edges.planner(1, 50);
             x.commit(0, 0, 0, true);
             int[][] due = {{0, 0}, {49, 0}, {50, 0}, {51, 200}, {52, 400}, {500, 90000}};
@@ -417,6 +428,29 @@ final class TellEdgesTest {
                 Edges.row(w -> x.violation(index, w), due[i]);
             }
             Check.fails(Edges.MISSING, () -> x.violation(due.length, 0));
+        });
+        Check.test("promise 25: 6 units in 24 hours can have 204 violations, with the indexes 0 to 203", () -> {
+            UnitCommitment x = Edges.planner(24);
+            x.size(24, 2);
+            x.setLine(1, 0, 0);
+            for (int unit = 0; unit < 6; unit++) {
+                x.addUnit(0, 10, 10, 10, 1);
+                x.setUnit(unit, 4, 24);
+                x.setUnit(unit, 5, 24);
+                for (int hour = 1; hour < 24; hour += 2) {
+                    x.commit(unit, hour, hour, true);
+                }
+                x.setUnit(unit, 6, 1);
+            }
+            for (int hour = 0; hour < 24; hour++) {
+                x.setDemand(1, hour, 1);
+                x.setReserve(hour, 1);
+            }
+            Edges.row(x::violationCount, 204, 72, 72, 0, 24, 24, 12);
+            Edges.row(w -> x.violation(0, w), 0, 1, 0);
+            Edges.row(w -> x.violation(200, w), 23, 2, 5);
+            Edges.row(w -> x.violation(203, w), 23, 6, -1);
+            Check.fails(Edges.MISSING, () -> x.violation(204, 0));
         });
         Check.test("promise 25: each unit of 6 can break one of the kinds 1 to 3 in an hour", () -> {
             for (int kind = 1; kind <= 3; kind++) {

@@ -38,7 +38,7 @@ final class TextEdgesTest {
             Check.same(4, Sample.make().append((char) 126));
             Sample.refuses(Edges.ARGUMENT, x -> x.append((char) 127));
         });
-        Check.test("promise 16: the least and the greatest codes, and those with a low byte in range, are refused", () -> {
+        Check.test("promise 16: codes far out of range, also those with a low byte in it, are refused", () -> {
             for (int code : new int[] {0, 1, 128, 255, 256 + 48, 512 + 61, 32768 + 49, 65535}) {
                 Sample.refuses(Edges.ARGUMENT, x -> x.append((char) code));
             }

@@ -189,7 +189,7 @@ final class UndoEdgesTest {
                 Check.fails(Edges.STATE, x::undo);
             }
         });
-        Check.test("promise 29: after undos, of those that could be undone before a change the latest 7 still can", () -> {
+        Check.test("promise 29: after undos and changes the latest 8 that are left can be undone", () -> {
             UnitCommitment x = changed(9);
             Check.same(7, x.undo());
             x.setDemand(0, 0, 100);
@@ -285,6 +285,25 @@ final class UndoEdgesTest {
             y.undo();
             Check.fails(Edges.STATE, y::restore);
         });
+        Check.test("promises 29, 31: undo and restore bring back the parent and the limit of each line", () -> {
+            for (int bus = 1; bus < 4; bus++) {
+                UnitCommitment x = new UnitCommitment();
+                x.size(1, 4);
+                x.setLine(bus, 0, 7);
+                x.setLine(bus, bus - 1, 8);
+                x.snapshot();
+                x.undo();
+                Edges.row(w -> x.bus(w, 0, 3), -1, 0, bus == 2 ? 0 : 1, bus == 3 ? 0 : 2);
+                Check.same(7, x.bus(bus, 0, 4));
+                x.undo();
+                Edges.row(w -> x.bus(w, 0, 3), -1, 0, 1, 2);
+                Edges.row(w -> x.bus(w, 0, 4), 0, 100, 100, 100);
+                x.setLine(bus, 0, 9);
+                x.restore();
+                Edges.row(w -> x.bus(w, 0, 3), -1, 0, 1, 2);
+                Check.same(8, x.bus(bus, 0, 4));
+            }
+        });
         Check.test("promise 29: undo brings back the last unit, the last outage, and none", () -> {
             UnitCommitment x = new UnitCommitment();
             x.addUnit(0, 0, 9, 9, 9);
@@ -352,7 +371,7 @@ final class UndoEdgesTest {
             Sample.Call[] changes = {
                 x -> x.addUnit(0, 0, 9, 9, 9), x -> x.setUnit(1, 5, 24), x -> x.setDemand(0, 0, 499),
                 x -> x.setReserve(0, 499), x -> x.setLine(1, 0, 999), x -> x.commit(1, 0, 2, true),
-                x -> x.addOutage(1, 0, 24), x -> x.removeOutage(0), x -> x.setPolicy(0), x -> x.size(24, 4),
+                x -> x.addOutage(1, 0, 24), x -> x.removeOutage(0), x -> x.setPolicy(0), x -> x.size(6, 4),
             };
             String untouched = Sample.told(Sample.make());
             for (Sample.Call change : changes) {

@@ -28,7 +28,8 @@ final class UnitEdgesTest {
     }
 
     private static void addRanges() {
-        Edges.range("promise 6: the bus", 0, 1, Edges.INDEX, (x, v) -> x.addUnit(v, 0, 1, 1, 0), (x, v) -> x.unit(2, 8));
+        Edges.range("promise 6: the bus", 0, 1, Edges.INDEX, (x, v) -> x.addUnit(v, 0, 1, 1, 0),
+            (x, v) -> x.unit(2, 8));
         Edges.range("promise 6: the least output", 0, 500, Edges.ARGUMENT, (x, v) -> x.addUnit(1, v, 500, 1, 0),
             (x, v) -> x.unit(2, 9));
         Edges.range("promise 6: the greatest output with the least one 0", 1, 500, Edges.ARGUMENT,
@@ -101,6 +102,17 @@ final class UnitEdgesTest {
                 Edges.row(w -> x.unit(unit, w), FIRST);
             }
         });
+        Check.test("promise 6: what is told goes with a new unit, also where all was told before", () -> {
+            UnitCommitment x = Edges.planner(2, 9);
+            x.commit(0, 0, 1, true);
+            x.total(0);
+            x.addUnit(0, 0, 9, 9, 9);
+            Edges.row(w -> x.output(1, 0, w), 0, 0, 0, 0, 0, 0, 1);
+            Edges.row(w -> x.output(1, 1, w), 0, 0, 0, 0, 0, 0, 2);
+            x.undo();
+            x.addUnit(0, 1, 9, 9, 9);
+            Edges.row(w -> x.output(1, 1, w), 0, 0, 0, 0, 0, 0, 2);
+        });
         Check.test("promise 6: at first no hour of a unit is planned", () -> {
             UnitCommitment x = Edges.planner(24, 9);
             x.commit(0, 0, 23, true);
@@ -124,6 +136,12 @@ final class UnitEdgesTest {
         Check.test("promise 6: nothing of a unit before size stays for the next one", () -> {
             UnitCommitment x = Sample.make();
             x.commit(1, 0, 2, true);
+            for (int unit = 0; unit < 2; unit++) {
+                x.setUnit(unit, 6, 24);
+                for (int term = 0; term < 6; term++) {
+                    x.setUnit(unit, term, 24);
+                }
+            }
             x.size(3, 2);
             Check.same(0, x.addUnit(1, 0, 5, 6, 7));
             Check.same(1, x.addUnit(0, 0, 5, 6, 7));
@@ -180,7 +198,7 @@ final class UnitEdgesTest {
                 Check.same(0, x.unit(0, 7));
             }
         });
-        Check.test("promise 7: if the term 6 becomes positive and was negative, the term 7 becomes the least output", () -> {
+        Check.test("promise 7: if the term 6 turns positive, the term 7 becomes the least output", () -> {
             for (int hours : new int[] {1, 24}) {
                 UnitCommitment x = RAN.make();
                 x.setUnit(0, 7, 100);
