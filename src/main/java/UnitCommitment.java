@@ -838,7 +838,7 @@ public final class UnitCommitment {
 
         private int give(State s, int h, int u, int to, int left) {
             int from = s.unit[u][BUS];
-            int amount = Math.min(Math.min(left, unmet[to][h]), room(s, h, from, to));
+            int amount = passable(s, h, from, to, Math.min(left, unmet[to][h]));
             carry(s, h, from, to, amount);
             unmet[to][h] -= amount;
             got[h][u * MAX_BUSES + to] += amount;
@@ -846,23 +846,23 @@ public final class UnitCommitment {
         }
 
         /**
-         * The least room of the lines on the way. A parent has a lower number than its bus, so of two
-         * ends that differ the greater one is never above the other: the way leaves it by its line.
+         * How much of an amount each line on the way has room for. A parent has a lower number than its bus,
+         * so of two ends that differ the greater one is never above the other: the way leaves it by its line.
          */
-        private int room(State s, int h, int from, int to) {
-            int room = Integer.MAX_VALUE;
+        private int passable(State s, int h, int from, int to, int amount) {
+            int most = amount;
             int a = from;
             int b = to;
             for (int step = 0; step < 2 * MAX_BUSES && a != b; step++) {
-                int free = a > b ? s.limit[a] - flow[a][h] : s.limit[b] + flow[b][h];
-                room = free < room ? free : room;
+                int room = a > b ? s.limit[a] - flow[a][h] : s.limit[b] + flow[b][h];
+                most = room < most ? room : most;
                 if (a > b) {
                     a = s.parent[a];
                 } else {
                     b = s.parent[b];
                 }
             }
-            return room;
+            return most;
         }
 
         private void carry(State s, int h, int from, int to, int amount) {

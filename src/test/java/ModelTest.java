@@ -3,8 +3,11 @@
  * the class and the model answer alike, with a value or with an exception.
  */
 final class ModelTest {
-    /** A step makes 102 calls at most, and the end of a run 10. */
+    /** A step makes 103 calls at most, and the end of a run 10. */
     private static final int STEPS_UNTIL = 400;
+
+    /** One more than the buffer holds. */
+    private static final int MOST_APPENDED = 101;
 
     private interface Answer {
         Object of();
@@ -184,7 +187,7 @@ final class ModelTest {
         if (chance(8)) {
             text.append((char) (32 + below(95)));
         }
-        for (int i = 0; i < text.length(); i++) {
+        for (int i = 0; i < text.length() && i < MOST_APPENDED; i++) {
             char character = text.charAt(i);
             both("append", () -> x.append(character), () -> m.append(character));
         }
